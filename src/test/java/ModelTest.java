@@ -10,14 +10,17 @@ public final class ModelTest {
     private final AllocateSolve real = new AllocateSolve();
     private final Model model = new Model();
     private final String name;
-    // Narrow numbers make ties, scarce lots and equal goods common; wide ones reach the ranges' ends.
+    // Narrow numbers make ties, scarce lots and equal goods common; wide ones reach the ranges' ends,
+    // which are all that there is with edges.
     private final boolean narrow;
+    private final boolean edges;
     private int dearSolves = 3;
 
     private ModelTest(int seed) {
         random = new Random(seed);
         name = "run " + seed;
         narrow = random.nextInt(3) > 0;
+        edges = !narrow && random.nextBoolean();
     }
 
     private interface Answer {
@@ -57,20 +60,18 @@ public final class ModelTest {
         Check.same(name + ": " + call + Arrays.toString(values), answer(got), answer(due));
     }
 
-    /** Mostly a number of the range, now and then one beside it. */
+    /** Mostly a number of the range, now and then one beside it or far off. */
     private int near(int least, int most) {
         int dice = random.nextInt(60);
-        if (dice == 0) {
-            return least - 1;
+        if (dice < 4) {
+            return Check.outside(least, most)[dice];
         }
-        if (dice == 1) {
-            return most + 1;
-        }
-        if (dice == 2) {
+        if (dice == 4) {
             return random.nextInt();
         }
-        if (dice < 6) {
-            return random.nextBoolean() ? least : most;
+        if (edges || dice < 8) {
+            int in = Math.min(random.nextInt(2), most - least);
+            return random.nextBoolean() ? least + in : most - in;
         }
         return least + random.nextInt(most - least + 1);
     }
