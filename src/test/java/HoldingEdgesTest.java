@@ -467,6 +467,11 @@ public final class HoldingEdgesTest {
         x.change(0, 0);
         x.solve(16);
         Check.refused("refused all", Check.STATE, () -> x.undo(0));
+        AllocateSolve y = new AllocateSolve();
+        y.line(0, 1);
+        Check.refused("before a solving", Check.STATE, () -> y.undo(0));
+        y.solve(1);
+        Check.refused("without lots", Check.STATE, () -> y.undo(0));
         for (int no : Check.beyond(4)) {
             Check.refused("line " + no, Check.NONE, () -> x.undo(no));
         }
@@ -527,6 +532,8 @@ public final class HoldingEdgesTest {
         Check.same("the place again", x.average(0), 99);
         x.change(0, 1);
         Check.same("of one piece", x.average(0), 99);
+        // Two pieces at each of 10 to 17 are 216 for 16.
+        Check.same("of eight lots", eightGifts().average(0), 13);
     }
 
     private static void averageOfNone() {

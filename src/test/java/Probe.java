@@ -31,12 +31,21 @@ final class Probe {
         return probe.log.toString();
     }
 
+    /** What the object holds as it is: calls that only ask. */
+    static String holdings(AllocateSolve x) {
+        Probe probe = new Probe(x);
+        probe.askHoldings();
+        return probe.log.toString();
+    }
+
     private void note(String name, Answer answer) {
         calls++;
         log.append(name).append('=');
         try {
             log.append(answer.get());
         } catch (RuntimeException e) {
+            // What is asked here can only be missing or not be held; all else comes of a fault.
+            Check.yes(name + " threw " + e, e.getClass() == Check.NONE || e.getClass() == Check.NO_DIVISOR);
             log.append(e.getClass().getSimpleName());
         }
         log.append(' ');

@@ -132,6 +132,14 @@ public final class RefusalsTest {
             Check.refused(one.name + " again", one.due, () -> one.call.on(x));
             Check.sameText("behind " + one.name, Probe.of(x, CALLS_OF_A_SCENE), due);
         }
+        askingChangesNothing(name, scene);
+    }
+
+    private static void askingChangesNothing(String name, Scene scene) {
+        Check.sentence("Promises 8 to 14 and 17 to 19, " + name, "as it is now");
+        AllocateSolve x = scene.make();
+        String once = Probe.holdings(x);
+        Check.sameText("asked twice", Probe.holdings(x), once);
     }
 
     private void add(String name, Class<? extends RuntimeException> due, Use call) {
