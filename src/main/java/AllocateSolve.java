@@ -36,10 +36,10 @@ public final class AllocateSolve {
     private boolean solvedExactly;
 
     public AllocateSolve() {
-        floor = new Floor();
+        search = new Search();
+        floor = search.floor;
         lots = floor.lots;
         lines = floor.lines;
-        search = new Search(floor);
         solvedExactly = false;
     }
 
@@ -465,21 +465,15 @@ public final class AllocateSolve {
 
     /** Chooses the sets of lots that the lines take of, and lets them take. */
     private static final class Search {
-        private final Floor floor;
-        private final Lots lots;
-        private final Lines lines;
+        final Floor floor = new Floor();
+        private final Lots lots = floor.lots;
+        private final Lines lines = floor.lines;
         private final int[][] allowed = new int[MOST_LINES][MOST_LOTS];
         private final int[] allowedCount = new int[MOST_LINES];
         private final int[] tried = new int[MOST_LINES];
         private final int[] best = new int[MOST_LINES];
         private final int[] restBound = new int[MOST_LINES + 1];
         private int bestCost;
-
-        Search(Floor floor) {
-            this.floor = floor;
-            this.lots = floor.lots;
-            this.lines = floor.lines;
-        }
 
         void readAllowed() {
             for (int line = 0; line < lines.size; line++) {
